@@ -187,13 +187,13 @@ public final class DistinctDale {
         if (register < 0 || register >= Registers.COUNT) {
             throw new IndexOutOfBoundsException("no such register");
         }
-        registers.rankThoseAbove(NONE, asked);
+        registers.rankAllOf(asked);
         return at(registers.ranks, register);
     }
 
     /** Estimates the number of distinct items of a basket by its registers, in thousandths. */
     public long byRegisters(int basket) throws IndexOutOfBoundsException {
-        registers.rankThoseAbove(NONE, need(basket));
+        registers.rankAllOf(need(basket));
         return registers.estimate();
     }
 
@@ -301,6 +301,8 @@ public final class DistinctDale {
     /** The items of a basket in rising order, and the date of each at the same place. */
     private static final class Basket {
         private static final int FIRST_ROOM = 64;
+        // A power of two; with all the lesser ones it leads past as many items as there can be.
+        private static final int LONGEST_STEP = 65536;
 
         int[] items = new int[FIRST_ROOM];
         int[] dates = new int[FIRST_ROOM];
@@ -349,17 +351,13 @@ public final class DistinctDale {
         }
 
         int dateFor(int item) {
-            int low = 0;
-            int high = size;
-            while (low < high) {
-                int middle = (low + high) / 2;
-                if (at(items, middle) < item) {
-                    low = middle + 1;
-                } else {
-                    high = middle;
+            int below = 0;
+            for (int step = LONGEST_STEP; step > 0; step /= 2) {
+                if (below + step <= size && at(items, below + step - 1) < item) {
+                    below += step;
                 }
             }
-            return low < size && at(items, low) == item ? at(dates, low) : NONE;
+            return below < size && at(items, below) == item ? at(dates, below) : NONE;
         }
 
         private void makeRoomFor(int wanted) {
@@ -454,6 +452,11 @@ public final class DistinctDale {
         };
 
         final int[] ranks = new int[COUNT];
+
+        void rankAllOf(Basket basket) {
+            // Every date is above NONE.
+            rankThoseAbove(NONE, basket);
+        }
 
         /** Ranks the items of a basket whose date is above a bound. */
         void rankThoseAbove(int bound, Basket basket) {
