@@ -1,5 +1,7 @@
 import java.util.ArrayList;
 import java.util.List;
+import java.util.Map;
+import java.util.TreeMap;
 
 /** Counts and prints the calls of a test whose answer is not the one that is due. */
 final class Check {
@@ -10,11 +12,36 @@ final class Check {
     }
 
     private final String test;
+    private final Map<Integer, Integer> testsOfPromise = new TreeMap<>();
+    private String heading = "";
     private int wrong;
     private int asked;
 
     Check(String test) {
         this.test = test;
+    }
+
+    /** Runs a test of one sentence; the promise that says it and the sentence head what is printed. */
+    void holds(int promise, String sentence, Runnable body) {
+        int askedBefore = asked;
+        heading = promise + ", \"" + sentence + "\": ";
+        testsOfPromise.merge(promise, 1, Integer::sum);
+        try {
+            body.run();
+            if (asked == askedBefore) {
+                report("looks at no answer");
+            }
+        } catch (RuntimeException e) {
+            report("ended by " + e);
+        }
+        heading = "";
+    }
+
+    /** Each of these promises must have had a test. */
+    void promises(int first, int last) {
+        for (int promise = first; promise <= last; promise++) {
+            due("tests of promise " + promise, testsOfPromise.containsKey(promise), true);
+        }
     }
 
     void due(String call, long got, long want) {
@@ -106,7 +133,9 @@ final class Check {
 
     /** Ends the test: with exit code 1 if an answer was wrong. */
     void end() {
-        System.out.println(test + ": " + asked + " answers looked at, " + wrong + " not as due");
+        int tests = testsOfPromise.values().stream().mapToInt(Integer::intValue).sum();
+        System.out.println(test + ": " + (tests > 0 ? tests + " tests, " : "") + asked + " answers looked at, "
+            + wrong + " not as due");
         if (wrong != 0) {
             System.exit(1);
         }
@@ -114,6 +143,6 @@ final class Check {
 
     private void report(String what) {
         wrong++;
-        System.out.println(test + ": " + what);
+        System.out.println(test + ": " + heading + what);
     }
 }

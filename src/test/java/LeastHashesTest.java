@@ -4,7 +4,7 @@ import java.util.List;
 public final class LeastHashesTest {
     private static final Check CHECK = new Check("LeastHashesTest");
 
-    // The items with the four least hashes of all: 136, 182, 465 and 666; and one with a great hash.
+    // The items with the least hashes of all but item 0, whose hash is 101; and one with a great hash.
     private static final int A136 = 73985;
     private static final int B182 = 43532;
     private static final int C465 = 90376;
