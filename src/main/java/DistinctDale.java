@@ -501,15 +501,29 @@ public final class DistinctDale {
         int size = 0;
 
         void thin(Basket basket) {
+            forget();
+            for (int i = 0; i < basket.size; i++) {
+                count(hashFor(at(basket.items, i)));
+            }
+            settle();
+        }
+
+        private void forget() {
+            size = 0;
             for (int i = 0; i <= HIGHEST_LEVEL; i++) {
                 put(itemsByLowZeros, i, 0);
             }
-            for (int i = 0; i < basket.size; i++) {
-                int zeros = lowZerosOf(at(basket.items, i));
-                put(itemsByLowZeros, zeros, at(itemsByLowZeros, zeros) + 1);
-            }
+        }
+
+        private void count(int hash) {
+            int zeros = lowZeros(hash, HIGHEST_LEVEL);
+            put(itemsByLowZeros, zeros, at(itemsByLowZeros, zeros) + 1);
+            size++;
+        }
+
+        /** Leaves out, level by level, the items that were counted, until the others are few enough. */
+        private void settle() {
             levelFound = 0;
-            size = basket.size;
             while (size > MOST_SAMPLED && levelFound < HIGHEST_LEVEL) {
                 size -= at(itemsByLowZeros, levelFound);
                 levelFound++;
@@ -521,7 +535,7 @@ public final class DistinctDale {
             int before = 0;
             for (int i = 0; i < basket.size; i++) {
                 int item = at(basket.items, i);
-                if (lowZerosOf(item) >= levelFound) {
+                if (lowZeros(hashFor(item), HIGHEST_LEVEL) >= levelFound) {
                     if (before == index) {
                         return item;
                     }
@@ -529,10 +543,6 @@ public final class DistinctDale {
                 }
             }
             return NONE;
-        }
-
-        private static int lowZerosOf(int item) {
-            return lowZeros(hashFor(item), HIGHEST_LEVEL);
         }
     }
 }

@@ -485,5 +485,29 @@ public final class ItemEdgesTest {
             CHECK.due("merge(0, 1)", x.merge(0, 1), 15300);
             CHECK.due("merge(1, 0)", x.merge(1, 0), 15300);
         });
+        for (int many : new int[] {60, 120, 180, 300, 15000}) {
+            CHECK.holds(5, "many items into a basket that never had one, and into one of one item", () ->
+                mergedAtOnce(many));
+        }
+    }
+
+    private static void mergedAtOnce(int many) {
+        DistinctDale x = new DistinctDale(4);
+        for (int item = 0; item < many; item += 60) {
+            x.addLine(0, 3 * item, 3, 60);
+        }
+        int last = 3 * (many - 1);
+        x.add(2, last);
+        x.pass(1);
+        x.add(0, last);
+        CHECK.due("merge(0, 1) of " + many, x.merge(0, 1), many);
+        CHECK.due("merge(0, 2) of " + many, x.merge(0, 2), many - 1);
+        for (int basket = 0; basket < 3; basket++) {
+            CHECK.due("plain(" + basket + ")", x.plain(basket), many);
+            CHECK.due("the date of the first", x.dateOf(basket, 0), 0);
+            CHECK.due("the date of one between", x.dateOf(basket, last / 6 * 3), 0);
+            CHECK.due("the date of the last", x.dateOf(basket, last), 1);
+            CHECK.due("the item behind the last", x.dateOf(basket, last + 3), DistinctDale.NONE);
+        }
     }
 }

@@ -21,6 +21,7 @@ public final class LeastHashEdgesTest {
         common();
         without();
         pairsOfFewAndMany();
+        nothingIsLeftOfEarlierCalls();
         CHECK.promises(12, 18);
         CHECK.end();
     }
@@ -433,5 +434,31 @@ public final class LeastHashEdgesTest {
             CHECK.due(what, x.without(0, 1), u * inFirstAlone / inL);
             CHECK.due(what + ", the other way round", x.without(1, 0), u * (inL - both - inFirstAlone) / inL);
         }
+    }
+
+    /** What was asked ahead had one hash more, ahead of all others. */
+    private static void nothingIsLeftOfEarlierCalls() {
+        DistinctDale x = new DistinctDale(5);
+        Check.addAll(x, 0, item(0), item(1), item(2));
+        x.merge(0, 1);
+        CHECK.due("17: common(0, 1) of three", x.common(0, 1), 3);
+        CHECK.due("18: without(0, 2) of three", x.without(0, 2), 3);
+        x.empty(0);
+        x.empty(1);
+        Check.addAll(x, 0, item(1), item(2));
+        x.merge(0, 1);
+        String words = "Everything that is asked of a basket follows from its items: fewer than ahead";
+        CHECK.holds(13, words, () -> CHECK.due("kept(0)", x.kept(0), 2));
+        CHECK.holds(14, words, () -> {
+            CHECK.due("what it keeps", Check.keptBy(x, 0), List.of(hash(1), hash(2)));
+            CHECK.outOfBounds("keptAt(0, 2)", x, () -> x.keptAt(0, 2));
+        });
+        CHECK.holds(15, words, () -> CHECK.due("byLeast(0)", x.byLeast(0), 2));
+        CHECK.holds(16, words, () -> CHECK.due("together(0, 1)", x.together(0, 1), 2));
+        CHECK.holds(17, words, () -> CHECK.due("common(0, 1)", x.common(0, 1), 2));
+        CHECK.holds(18, words, () -> {
+            CHECK.due("without(0, 1)", x.without(0, 1), 0);
+            CHECK.due("without(0, 2)", x.without(0, 2), 2);
+        });
     }
 }

@@ -17,6 +17,7 @@ public final class UnreachableTest {
         noItemHasThem();
         rankOfLowHashes();
         zerosOfZero();
+        levelsAboveAllItems();
         leastHashes();
         CHECK.end();
     }
@@ -79,6 +80,26 @@ public final class UnreachableTest {
             CHECK.due("how often 2 divides 8388608", (Integer) call(x, "lowZeros", 8388608, 24), 23);
             CHECK.due("how often 2 divides 1", (Integer) call(x, "lowZeros", 1, 24), 0);
         });
+    }
+
+    private static void levelsAboveAllItems() {
+        CHECK.holds(22, "at most 16 items have hashes that 2 to the power of l divides: 16 of the hash 0", () ->
+            levelIs(0, 16, 0, 16));
+        CHECK.holds(22, "if there is none, it is 24: 17 of the hash 0", () -> levelIs(0, 17, 24, 17));
+        CHECK.holds(22, "0 to 24: 17 that 2 divides 23 times", () -> levelIs(8388608, 17, 24, 0));
+        CHECK.holds(22, "0 to 24: 17 that 2 divides 22 times", () -> levelIs(4194304, 17, 23, 0));
+        CHECK.holds(22, "0 to 24: 17 that 2 divides 14 times", () -> levelIs(16384, 17, 15, 0));
+    }
+
+    private static void levelIs(int hash, int many, int level, int sampled) {
+        Object thinning = make("Thinning");
+        call(thinning, "forget");
+        for (int i = 0; i < many; i++) {
+            call(thinning, "count", hash);
+        }
+        call(thinning, "settle");
+        CHECK.due("the level", (Integer) read(thinning, "levelFound"), level);
+        CHECK.due("how many the sample has", (Integer) read(thinning, "size"), sampled);
     }
 
     private static void leastHashes() {
