@@ -8,6 +8,9 @@ public final class RefusalTest {
     private static final Class<? extends RuntimeException> NO_SUCH = IndexOutOfBoundsException.class;
     private static final Class<? extends RuntimeException> ILLEGAL = IllegalArgumentException.class;
 
+    /** So many calls prepared() makes. */
+    private static final int SETUP_CALLS = 12;
+
     private static final int[] WRONG_BASKETS = {-1, 6, 7, -6, 100, Integer.MIN_VALUE, Integer.MAX_VALUE};
     private static final int[] WRONG_ITEMS = {-1, 100000, 100001, Integer.MIN_VALUE, Integer.MAX_VALUE};
 
@@ -43,8 +46,6 @@ public final class RefusalTest {
         afterwards();
         CHECK.end();
     }
-
-    private static final int SETUP_CALLS = 12;
 
     /** Baskets 0 and 1 have items of two ticks, 2 has more than its sample, 3 and 4 have none, 5 has two. */
     private static DistinctDale prepared() {

@@ -1,4 +1,3 @@
-import java.util.ArrayList;
 import java.util.List;
 
 /** Promises 19 to 21: register, byRegisters and recent. */
@@ -30,16 +29,16 @@ public final class RegistersTest {
 
     private static void register() {
         DistinctDale x = new DistinctDale(2);
-        CHECK.due("19: an empty basket", registersOf(x, 0), List.of(0, 0, 0, 0, 0, 0, 0, 0, 0, 0, 0, 0, 0, 0, 0, 0));
+        CHECK.due("19: an empty basket", WholeState.registersOf(x, 0), List.of(0, 0, 0, 0, 0, 0, 0, 0, 0, 0, 0, 0, 0, 0, 0, 0));
         x.addLine(0, 0, 1, 60);
-        CHECK.due("19: a line", registersOf(x, 0), List.of(0, 3, 0, 4, 0, 3, 0, 3, 0, 3, 0, 6, 0, 6, 0, 3));
+        CHECK.due("19: a line", WholeState.registersOf(x, 0), List.of(0, 3, 0, 4, 0, 3, 0, 3, 0, 3, 0, 6, 0, 6, 0, 3));
         Check.addAll(x, 1, HIGHEST);
         List<Integer> highest = List.of(13, 14, 13, 16, 17, 14, 15, 14, 16, 11, 12, 13, 12, 14, 14, 13);
-        CHECK.due("19: high ranks", registersOf(x, 1), highest);
+        CHECK.due("19: high ranks", WholeState.registersOf(x, 1), highest);
         Check.addAll(x, 1, LOWEST);
-        CHECK.due("19: low ranks change no register", registersOf(x, 1), highest);
+        CHECK.due("19: low ranks change no register", WholeState.registersOf(x, 1), highest);
         Check.addAll(x, 2, LOWEST);
-        CHECK.due("19: low ranks", registersOf(x, 2), List.of(1, 1, 1, 1, 1, 1, 1, 1, 1, 1, 1, 1, 1, 1, 1, 1));
+        CHECK.due("19: low ranks", WholeState.registersOf(x, 2), List.of(1, 1, 1, 1, 1, 1, 1, 1, 1, 1, 1, 1, 1, 1, 1, 1));
     }
 
     private static void registerRefused() {
@@ -146,13 +145,5 @@ public final class RegistersTest {
         CHECK.outOfBounds("21: recent(-1, 1)", x, () -> x.recent(-1, 1));
         CHECK.outOfBounds("21: recent(6, 1)", x, () -> x.recent(6, 1));
         CHECK.outOfBounds("21: recent(6, 0)", x, () -> x.recent(6, 0));
-    }
-
-    private static List<Integer> registersOf(DistinctDale x, int basket) {
-        List<Integer> registers = new ArrayList<>();
-        for (int register = 0; register < 16; register++) {
-            registers.add(x.register(basket, register));
-        }
-        return registers;
     }
 }
