@@ -8,7 +8,8 @@ import java.util.Set;
 /**
  * What the document says of hashes that no item from 0 to 99999 has: a hash of 0, the rank of 21, two
  * items of one hash, levels above 13. First that no item has them; then what is inside the class, which
- * is asked by name, since no call of the face leads there.
+ * is asked by name, since no call of the face leads there. So are places beyond a row, at which rule 7 of
+ * LANGUAGE.md lets nothing throw.
  */
 public final class UnreachableTest {
     private static final Check CHECK = new Check("UnreachableTest");
@@ -19,6 +20,7 @@ public final class UnreachableTest {
         zerosOfZero();
         levelsAboveAllItems();
         leastHashes();
+        placesBeyondARow();
         CHECK.end();
     }
 
@@ -132,6 +134,21 @@ public final class UnreachableTest {
             CHECK.due("the estimate", (Integer) call(least, "estimate"), 16777213);
             CHECK.due("all of it", (Integer) call(least, "estimateOfPart", 32), 16777213);
         });
+    }
+
+    private static void placesBeyondARow() {
+        DistinctDale x = new DistinctDale(2);
+        int[] row = {7, 8};
+        for (int place : new int[] {-1, 2, 3, Integer.MIN_VALUE, Integer.MAX_VALUE}) {
+            CHECK.due("rule 7: at place " + place + " of two", (Integer) call(x, "at", row, place), DistinctDale.NONE);
+            call(x, "put", row, place, 9);
+        }
+        CHECK.text("rule 7: the row behind that", Arrays.toString(row), "[7, 8]");
+        CHECK.due("rule 7: at place 1 of two", (Integer) call(x, "at", row, 1), 8);
+        call(x, "put", row, 0, 9);
+        CHECK.due("rule 7: what was put at place 0", (Integer) call(x, "at", row, 0), 9);
+        CHECK.due("rule 7: at place 0 of no row", (Integer) call(x, "at", null, 0), DistinctDale.NONE);
+        call(x, "put", null, 0, 9);
     }
 
     /** Makes an object of a class inside, whose constructor has as many parameters as there are numbers. */
